@@ -948,7 +948,8 @@ public final class ShuffleHall {
             for (int place = 0; place < row.size(); place++) {
                 int number = row.numberAt(place);
                 int above = (ends >> number) << number;
-                ends = (ends ^ Integer.lowestOneBit(above)) | (1 << number);
+                int nextAbove = above & -above;
+                ends = (ends ^ nextAbove) | (1 << number);
             }
             return Integer.bitCount(ends);
         }
