@@ -304,14 +304,14 @@ public final class ShuffleHall {
     public int best(int deck) throws IndexOutOfBoundsException {
         Row row = needDeck(deck).row();
         int bestKind = NONE;
-        int fewest = Integer.MAX_VALUE;
+        int fewest = 0;
         for (int kind = OUT; kind <= DEAL; kind++) {
             int number = kind == DEAL ? 2 : 0;
             if (Shuffles.lay(move, kind, number, row.size())) {
                 trial.copy(row);
                 trial.follow(move);
                 int inversions = Measures.inversions(trial);
-                if (inversions < fewest) {
+                if (bestKind == NONE || inversions < fewest) {
                     fewest = inversions;
                     bestKind = kind;
                 }
@@ -481,7 +481,7 @@ public final class ShuffleHall {
 
         void addSpan(int from, int end) {
             for (int number = from; number < end; number++) {
-                add(number);
+                addLying(2 * number);
             }
         }
 

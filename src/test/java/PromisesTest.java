@@ -1,11 +1,5 @@
 /** Each promise of the document by answers that were reckoned by hand. */
-public final class PromisesTest {
-    private static final Class<IndexOutOfBoundsException> INDEX = IndexOutOfBoundsException.class;
-    private static final Class<IllegalArgumentException> ARGUMENT = IllegalArgumentException.class;
-    private static final Class<IllegalStateException> STATE = IllegalStateException.class;
-
-    private static final Checks CHECKS = new Checks();
-
+public final class PromisesTest extends TestBase {
     public static void main(String[] args) {
         promise1NewObject();
         promise2Deck();
@@ -36,38 +30,6 @@ public final class PromisesTest {
         promise22Riffle();
         promise23Digest();
         CHECKS.end("PromisesTest");
-    }
-
-    /** The cards from the top on; ^ stands behind one whose face is up. */
-    private static String cards(ShuffleHall hall, int deck) {
-        StringBuilder text = new StringBuilder();
-        for (int i = 0; i < hall.ofDeck(deck, 0); i++) {
-            int card = hall.card(deck, i);
-            text.append(i == 0 ? "" : " ").append(card).append(hall.find(deck, card, true) == 1 ? "^" : "");
-        }
-        return text.toString();
-    }
-
-    private static ShuffleHall laid(int... sizes) {
-        ShuffleHall hall = new ShuffleHall();
-        for (int size : sizes) {
-            hall.deck(size);
-        }
-        return hall;
-    }
-
-    /** A deck that lies as is told: from the lowest card on, each is fetched to the top by BACK alone. */
-    private static ShuffleHall lying(int... order) {
-        ShuffleHall hall = laid(order.length);
-        for (int i = order.length - 1; i >= 0; i--) {
-            int at = hall.find(0, order[i], false);
-            hall.shuffle(0, 6, at, 1);
-            hall.shuffle(0, 6, at + 1, 1);
-        }
-        for (int i = 0; i < order.length; i++) {
-            CHECKS.same("card laid at " + i, hall.card(0, i), order[i]);
-        }
-        return hall;
     }
 
     private static void makes(int cards, int kind, int number, String due) {
