@@ -2,34 +2,38 @@ import java.lang.reflect.Constructor;
 import java.lang.reflect.Field;
 import java.lang.reflect.Method;
 import java.lang.reflect.Modifier;
+import java.util.Arrays;
 import java.util.Set;
 import java.util.TreeSet;
+import java.util.stream.Collectors;
 
 /** The public face of the document, and the rules of the language that can be seen from outside. */
 public final class FaceTest {
     private static final String[] FACE = {
-        "int deck(int)",
-        "int shuffle(int, int, int, int)",
-        "int undo(int)",
-        "boolean turn(int, int)",
-        "int sequence()",
-        "int step(int, int, int)",
-        "int perform(int, int, int)",
-        "int card(int, int)",
-        "int find(int, int, boolean)",
-        "int ofDeck(int, int)",
-        "boolean keeps(int, int)",
-        "double chance(int, int)",
-        "double far(int)",
-        "int alike(int, int)",
-        "int ofSequence(int, int)",
-        "int period(int, int)",
-        "int many(int)",
-        "int toTop(int, int)",
-        "int goes(int, int, int, int)",
-        "int best(int)",
-        "int riffle(int)",
-        "long digest()",
+        "public int deck(int) throws IllegalArgumentException, IllegalStateException",
+        "public int shuffle(int, int, int, int) throws IndexOutOfBoundsException, IllegalArgumentException",
+        "public int undo(int) throws IndexOutOfBoundsException",
+        "public boolean turn(int, int) throws IndexOutOfBoundsException",
+        "public int sequence() throws IllegalStateException",
+        "public int step(int, int, int)"
+                + " throws IndexOutOfBoundsException, IllegalArgumentException, IllegalStateException",
+        "public int perform(int, int, int)"
+                + " throws IndexOutOfBoundsException, IllegalArgumentException, IllegalStateException",
+        "public int card(int, int) throws IndexOutOfBoundsException",
+        "public int find(int, int, boolean) throws IndexOutOfBoundsException",
+        "public int ofDeck(int, int) throws IndexOutOfBoundsException, IllegalArgumentException",
+        "public boolean keeps(int, int) throws IndexOutOfBoundsException, IllegalArgumentException",
+        "public double chance(int, int) throws IndexOutOfBoundsException, IllegalArgumentException",
+        "public double far(int) throws IndexOutOfBoundsException",
+        "public int alike(int, int) throws IndexOutOfBoundsException",
+        "public int ofSequence(int, int) throws IndexOutOfBoundsException, IllegalArgumentException",
+        "public int period(int, int) throws IndexOutOfBoundsException, IllegalArgumentException",
+        "public int many(int) throws IllegalArgumentException",
+        "public int toTop(int, int) throws IndexOutOfBoundsException",
+        "public int goes(int, int, int, int) throws IndexOutOfBoundsException, IllegalArgumentException",
+        "public int best(int) throws IndexOutOfBoundsException",
+        "public int riffle(int) throws IndexOutOfBoundsException",
+        "public long digest()",
     };
 
     public static void main(String[] args) {
@@ -66,13 +70,20 @@ public final class FaceTest {
         }
     }
 
+    /** The method as the document writes it, without the names of its parameters. */
     private static String shape(Method method) {
         StringBuilder text = new StringBuilder();
-        text.append(method.getReturnType()).append(' ').append(method.getName()).append('(');
-        for (int i = 0; i < method.getParameterCount(); i++) {
-            text.append(i == 0 ? "" : ", ").append(method.getParameterTypes()[i]);
+        text.append(Modifier.toString(method.getModifiers())).append(' ');
+        text.append(method.getReturnType()).append(' ').append(method.getName());
+        text.append('(').append(names(method.getParameterTypes())).append(')');
+        if (method.getExceptionTypes().length > 0) {
+            text.append(" throws ").append(names(method.getExceptionTypes()));
         }
-        return text.append(')').toString();
+        return text.toString();
+    }
+
+    private static String names(Class<?>[] types) {
+        return Arrays.stream(types).map(Class::getSimpleName).collect(Collectors.joining(", "));
     }
 
     private static void constructors(Checks checks) {
